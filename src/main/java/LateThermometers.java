@@ -378,16 +378,16 @@ public final class LateThermometers {
         private int kept;
         private int lag = 1;
         private int offset;
-        private boolean shutOut;
         int row;
         int weight = 1;
         int shown;
         int strikes;
         int spikes;
+        boolean shutOut;
         /** NONE if there is none; it changes with the readings alone. */
         int mended = NONE;
 
-        /** Makes it a new one: what the object was before an undo may still stand in it. */
+        /** Makes it a new one: what the object was before undo or goBack may still stand in it. */
         void begin(int itsRow, int itsLag, int itsOffset, int itsWeight, int temperature) {
             row = itsRow;
             lag = itsLag;
@@ -922,7 +922,7 @@ public final class LateThermometers {
                 if (position == length) {
                     return true;
                 }
-                if (!takes(';', ';')) {
+                if (!takesSign(';')) {
                     return false;
                 }
             }
@@ -932,25 +932,25 @@ public final class LateThermometers {
         /** For a complete text: reads one order and the ";" behind it; false if there are no more. */
         boolean readNextOrder() {
             boolean isRead = readsOrder();
-            takes(';', ';');
+            takesSign(';');
             return isRead;
         }
 
         private boolean readsOrder() {
-            if (takes('t', 't')) {
+            if (takesSign('t')) {
                 kind = 't';
-                return readsRow() && takes(',', ',') && readsNumber('1', '9') && readsWeight();
+                return readsRow() && takesSign(',') && readsNumber('1', '9') && readsWeight();
             }
-            if (takes('h', 'h')) {
+            if (takesSign('h')) {
                 kind = 'h';
                 return readsDegrees();
             }
-            if (takes('p', 'p')) {
+            if (takesSign('p')) {
                 kind = 'p';
-                return readsRow() && takes('/', '/') && readsNumber('1', '6');
+                return readsRow() && takesSign('/') && readsNumber('1', '6');
             }
             kind = 'c';
-            return takes('c', 'c') && readsNumber('0', '9');
+            return takesSign('c') && readsNumber('0', '9');
         }
 
         private boolean readsRow() {
@@ -967,7 +967,7 @@ public final class LateThermometers {
 
         private boolean readsWeight() {
             weight = 1;
-            if (!takes('*', '*')) {
+            if (!takesSign('*')) {
                 return true;
             }
             boolean isTaken = takes('1', '5');
@@ -976,7 +976,7 @@ public final class LateThermometers {
         }
 
         private boolean readsDegrees() {
-            int sign = takes('-', '-') ? -1 : 1;
+            int sign = takesSign('-') ? -1 : 1;
             if (!takes('0', '9')) {
                 return false;
             }
@@ -987,6 +987,10 @@ public final class LateThermometers {
             }
             number = sign * degrees;
             return true;
+        }
+
+        private boolean takesSign(char sign) {
+            return takes(sign, sign);
         }
 
         /** Goes on by one character if it lies between two others; at the end of the text nothing does. */

@@ -6,6 +6,7 @@ public final class OrderTextTest {
         appendAdds();
         clearBufferClears();
         firstErrorIsFound();
+        eachCharacterThatMayFollow();
         executeCarriesOut();
         executeStopsAtTheFirstThatWouldThrow();
         executeRefuses();
@@ -69,6 +70,31 @@ public final class OrderTextTest {
         LateThermometers full = with(new LateThermometers(), "h5;h5;h5;h5;h5;h5;h5;h5;h5;h5;h5;h5;h5;h5;h5;h5;h5;h5;h5;h5;");
         CHECKS.same("firstError of 60 that could go on", full.firstError(), 60);
         CHECKS.changesNothing("firstError()", full, LateThermometers::firstError);
+    }
+
+    /** Each character from 33 to 126 behind each kind of beginning: only the ones that are named are right. */
+    private static void eachCharacterThatMayFollow() {
+        String digits = "0123456789";
+        String[][] beginnings = {{"", "thpc"}, {"t", "0123"}, {"t0", ","}, {"t3,", "123456789"}, {"t0,1", "*;"}, {"t0,9*", "12345"},
+            {"t0,1*5", ";"}, {"h", "-" + digits}, {"h-", digits}, {"h0", ";"}, {"h-0", ";"}, {"h1", digits + ";"}, {"h4", digits + ";"},
+            {"h-4", digits + ";"}, {"h5", "0;"}, {"h-5", "0;"}, {"h6", ";"}, {"h9", ";"}, {"h10", ";"}, {"h49", ";"}, {"h-50", ";"},
+            {"p", "0123"}, {"p3", "/"}, {"p0/", "123456"}, {"p0/6", ";"}, {"c", digits}, {"c9", ";"}, {"c0;", "thpc"}};
+        for (String[] beginning : beginnings) {
+            for (char character = 33; character <= 126; character++) {
+                String text = "p1/2;" + beginning[0] + character;
+                int due = beginning[1].indexOf(character) < 0 ? text.length() - 1 : text.length();
+                CHECKS.same("firstError of " + text, with(new LateThermometers(), text).firstError(), due);
+            }
+        }
+        for (int degrees = -60; degrees <= 60; degrees++) {
+            LateThermometers x = with(new LateThermometers(), "h" + degrees);
+            boolean fine = degrees >= -50 && degrees <= 50;
+            CHECKS.isTrue("h" + degrees, x.firstError() == x.count(11) == fine);
+            if (fine) {
+                x.execute();
+                CHECKS.same("h" + degrees + ": the temperature", x.count(2), 100 * degrees);
+            }
+        }
     }
 
     private static void executeCarriesOut() {

@@ -26,7 +26,7 @@ public final class UndoAndSnapshotsTest {
         keepTakesASnapshot();
         goBackRestores();
         goBackRefuses();
-        aThermometerAfterUndoIsNew();
+        aThermometerAfterGoBackIsNew();
         snapshotsAndSavedStatesAreNoPartOfTheState();
         CHECKS.finish("UndoAndSnapshotsTest");
     }
@@ -176,19 +176,19 @@ public final class UndoAndSnapshotsTest {
         CHECKS.refusesState("goBack(0) still", x, y -> y.goBack(0));
     }
 
-    private static void aThermometerAfterUndoIsNew() {
+    private static void aThermometerAfterGoBackIsNew() {
         LateThermometers x = new LateThermometers();
         x.thermometer(0, 1, 0, 1);
+        x.keep(0);
         x.thermometer(3, 9, 100, 5);
         x.set(0, 10);
         x.set(1, 1);
         x.hour(1000);
         x.knock(1, 3000);
         x.hour(1000);
-        CHECKS.isTrue("the second one has spikes", x.ofThermometer(1, 8) > 0);
-        for (int i = 0; i < 6; i++) {
-            x.undo();
-        }
+        CHECKS.same("the second one has a spike", x.ofThermometer(1, 8), 1);
+        CHECKS.same("the second one is shut out", x.ofThermometer(1, 6), 1);
+        x.goBack(0);
         CHECKS.same("one is left", x.count(1), 1);
         x.thermometer(2, 2, -5, 3);
         int[] due = {2, 2, -5, 3, 995, 0, 0, 0, 0, -999999};

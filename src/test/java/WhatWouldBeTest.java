@@ -55,10 +55,14 @@ public final class WhatWouldBeTest {
         y.period(0, 6);
         y.hour(1015);
         CHECKS.same("1010 and 1020 are as near to 1015", y.bestLag(0), 1);
-        y.hour(1044);
-        CHECKS.same("1040 is nearest to 1044", y.bestLag(0), 4);
-        y.hour(1046);
-        CHECKS.same("1050 is nearest to 1046", y.bestLag(0), 5);
+        int[] truths = {-5000, 1015, 1016, 1025, 1026, 1035, 1036, 1045, 1046, 1055, 1056, 1065, 1066, 1075, 1076, 1085, 1086, 5000};
+        y.undo();
+        y.keep(0);
+        for (int i = 0; i < truths.length; i++) {
+            y.goBack(0);
+            y.hour(truths[i]);
+            CHECKS.same("nearest to " + truths[i], y.bestLag(0), 1 + i / 2);
+        }
         CHECKS.refusesRow("bestLag(1)", y, z -> z.bestLag(1));
         CHECKS.refusesRow("bestLag(-1)", y, z -> z.bestLag(-1));
     }
