@@ -201,7 +201,7 @@ public final class LateThermometers {
     public int reading(int thermometer, int ago, int what)
             throws IndexOutOfBoundsException, IllegalArgumentException {
         checkThermometer(thermometer);
-        checkRange(ago, 0, Integer.MAX_VALUE);
+        checkNotNegative(ago);
         checkRange(what, 0, 1);
         Thermometer asked = now.at(thermometer);
         return what == 0 ? asked.hourAgo(ago) : asked.valueAgo(ago);
@@ -240,12 +240,12 @@ public final class LateThermometers {
 
     public int ranked(int how, int rank) throws IllegalArgumentException {
         checkRange(how, BY_TEMPERATURE, BY_ERROR);
-        checkRange(rank, 0, Integer.MAX_VALUE);
+        checkNotNegative(rank);
         return now.atRank(how, rank);
     }
 
     public int between(int from, int to) {
-        return now.countMended(from, to);
+        return now.countMendedIn(from, to);
     }
 
     // ---- what would be; nothing changes
@@ -280,7 +280,7 @@ public final class LateThermometers {
     }
 
     public double meanError() {
-        int number = now.countMended(Integer.MIN_VALUE, Integer.MAX_VALUE);
+        int number = now.countMended();
         return number == 0 ? 0.0 : (double) now.sumOfErrors() / (double) number;
     }
 
@@ -295,6 +295,12 @@ public final class LateThermometers {
     private static void checkRange(int number, int least, int most) {
         if (number < least || number > most) {
             throw new IllegalArgumentException("an argument is out of range");
+        }
+    }
+
+    private static void checkNotNegative(int number) {
+        if (number < 0) {
+            throw new IllegalArgumentException("an argument is negative");
         }
     }
 
@@ -317,19 +323,19 @@ public final class LateThermometers {
     /** Carries out the order that was read last; false, with nothing changed, if its method would throw. */
     private boolean carriesOut() {
         switch (text.kind) {
-            case 't':
+            case OrderText.ADDS_THERMOMETER:
                 if (!now.hasRoom()) {
                     return false;
                 }
                 now.add(text.row, text.number, 0, text.weight);
                 return true;
-            case 'h':
+            case OrderText.PASSES_HOUR:
                 if (!now.hasHoursLeft(1)) {
                     return false;
                 }
                 now.passHour(text.number * HUNDREDTHS);
                 return true;
-            case 'p':
+            case OrderText.CHANGES_PERIOD:
                 now.changePeriod(text.row, text.number);
                 return true;
             default:
@@ -771,7 +777,17 @@ public final class LateThermometers {
             return how == BY_ERROR ? -at(number).error(temperature) : at(number).mended;
         }
 
-        int countMended(int from, int to) {
+        int countMended() {
+            int number = 0;
+            for (int i = 0; i < size; i++) {
+                if (at(i).hasMended()) {
+                    number++;
+                }
+            }
+            return number;
+        }
+
+        int countMendedIn(int from, int to) {
             int number = 0;
             for (int i = 0; i < size; i++) {
                 if (at(i).hasMended() && at(i).mended >= from && at(i).mended <= to) {
@@ -875,14 +891,19 @@ public final class LateThermometers {
 
     /** The buffer, and a reader that goes through its orders. */
     private static final class OrderText {
+        static final int ADDS_THERMOMETER = 0;
+        static final int PASSES_HOUR = 1;
+        static final int CHANGES_PERIOD = 2;
+        static final int CALIBRATES = 3;
+
         private final char[] characters = new char[MOST_CHARACTERS];
         private int position;
         /** The digit that was taken last. */
         private int digit;
         int length;
 
-        /** The order that was read last: its letter, and what its numbers are. */
-        char kind;
+        /** The order that was read last: what it does, and what its numbers are. */
+        int kind;
         int row;
         /** The lag, the degrees, the period or the thermometer. */
         int number;
@@ -938,18 +959,18 @@ public final class LateThermometers {
 
         private boolean readsOrder() {
             if (takesSign('t')) {
-                kind = 't';
+                kind = ADDS_THERMOMETER;
                 return readsRow() && takesSign(',') && readsNumber('1', '9') && readsWeight();
             }
             if (takesSign('h')) {
-                kind = 'h';
+                kind = PASSES_HOUR;
                 return readsDegrees();
             }
             if (takesSign('p')) {
-                kind = 'p';
+                kind = CHANGES_PERIOD;
                 return readsRow() && takesSign('/') && readsNumber('1', '6');
             }
-            kind = 'c';
+            kind = CALIBRATES;
             return takesSign('c') && readsNumber('0', '9');
         }
 

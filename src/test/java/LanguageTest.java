@@ -47,7 +47,7 @@ public final class LanguageTest {
         "double meanError 0"};
 
     private static final String[] FORBIDDEN = {"->", "::", "\\bcatch\\b", "\\bfinally\\b", "\\bsynchronized\\b", "\\bassert\\b",
-        "\\bimport\\b", "\\bpackage\\b", "\\bstatic\\s*\\{", "Exact\\(", "\\bSystem\\.", "\\bObject\\b", "\\binstanceof\\b",
+        "\\bimport\\b", "\\bpackage\\b", "\\bstatic\\s*\\{", "Exact\\(", "\\bSystem\\.", "\\bObject\\b", "\\bM(?:IN|AX)_VALUE\\b", "\\binstanceof\\b",
         "\"\\s*\\+", "\\+\\s*\"", "\\bequals\\(", "\\bhashCode\\(", "\\btoString\\("};
 
     public static void main(String[] args) throws IOException {
