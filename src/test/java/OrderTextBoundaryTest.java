@@ -133,6 +133,11 @@ public final class OrderTextBoundaryTest {
         error("degrees from 0 to 50", "h59", 2);
         error("degrees from 0 to 50", "h60", 2);
         error("degrees from 0 to 50", "h90", 2);
+        error("degrees from 0 to 50: a second digit", "h1/", 2);
+        error("degrees from 0 to 50: a second digit", "h4:", 2);
+        error("degrees from 0 to 50: a second digit", "h-4/", 3);
+        error("degrees from 0 to 50: a second digit", "h-1:", 3);
+        error("degrees from 0 to 50: a second digit", "h5/", 2);
         error("degrees from 0 to 50", "h100", 3);
         error("degrees from 0 to 50", "h500", 3);
         order("perhaps \"-\"", "h-50", "count 2 = -5000");

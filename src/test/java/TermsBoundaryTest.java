@@ -1,3 +1,5 @@
+import java.util.Arrays;
+
 /** The boundary cases that the document's terms name: thermometers, hours, mended temperatures, spikes, means, settings. */
 public final class TermsBoundaryTest {
     private static final Sentences SENTENCES = new Sentences("TermsBoundaryTest");
@@ -12,6 +14,7 @@ public final class TermsBoundaryTest {
         mendedTemperatures();
         whoIsAsked();
         theMiddle();
+        theMiddleInEachOrder();
         whoIsCompared();
         theGreatestDifference();
         strikes();
@@ -27,6 +30,40 @@ public final class TermsBoundaryTest {
             thermometer 0 9 0 1
             between NONE NONE = 0
             between MIN MAX = 0
+            """);
+        SENTENCES.test("NONE is below all temperatures: the lowest that can be mended", """
+            thermometer 0 9 200 1
+            6 x knock 0 3000
+            knock 0 800 = 120000
+            hour 5000
+            reading 0 0 1 = 18356
+            12 x knock 0 -3000
+            knock 0 -2356 = 80000
+            hour -5000
+            reading 0 0 1 = -18312
+            ofThermometer 0 9 = -311856
+            count 5 = -311856
+            count 6 = -330012
+            count 7 = -311856
+            ranked 0 0 = 0
+            between NONE -311856 = 1
+            between NONE -311857 = 0
+            meanError = 306856.0
+            """);
+        SENTENCES.test("The highest temperature that can be mended", """
+            thermometer 0 9 -200 5
+            6 x knock 0 -3000
+            knock 0 -2800 = 80000
+            hour -5000
+            reading 0 0 1 = -18356
+            12 x knock 0 3000
+            knock 0 2356 = 120000
+            hour 5000
+            ofThermometer 0 9 = 311856
+            count 5 = 311856
+            count 6 = 330012
+            bestLag 0 = 1
+            ifLag 0 1 = 18512
             """);
     }
 
@@ -373,6 +410,24 @@ public final class TermsBoundaryTest {
             "count 3 = 0", "count 4 = 3");
     }
 
+    /** Of each number of thermometers, in several orders; the steps of 7 and 3 meet all of ten numbers. */
+    private static void theMiddleInEachOrder() {
+        for (int number = 1; number <= 10; number++) {
+            for (int start = 0; start < 10; start++) {
+                int[] mended = new int[number];
+                StringBuilder script = new StringBuilder(number + " x thermometer 0 9 0 1\n");
+                for (int i = 0; i < number; i++) {
+                    int place = (start + i * (start % 2 == 0 ? 7 : 3)) % 10;
+                    mended[i] = 1000 + 8 * place;
+                    script.append("knock ").append(i).append(' ').append(9 * place).append('\n');
+                }
+                Arrays.sort(mended);
+                script.append("hour 1000\ncount 7 = ").append(mended[(number - 1) / 2]);
+                SENTENCES.test("The middle of some temperatures, in ascending order: of " + number + ", from " + start, script.toString());
+            }
+        }
+    }
+
     private static void theMiddle() {
         SENTENCES.test("The middle of none: there is none", "count 7 = NONE", "two", "count 7 = NONE");
         SENTENCES.test("The middle is the one with the index (number - 1) / 2: of one", "thermometer 0 9 0 1", "knock 0 9", "hour 1000",
@@ -659,6 +714,18 @@ public final class TermsBoundaryTest {
     private static void shutOut() {
         SENTENCES.test("All of them are compared first: two are shut out by one another", "two", "set 1 1", "knock 1 338", "hour 1000 = 2",
             "ofThermometer 0 6 = 1", "ofThermometer 1 6 = 1", "count 9 = 2");
+        SENTENCES.test("All of them are compared first: who is shut out now is still one of the others", """
+            3 x thermometer 0 9 0 1
+            set 1 1
+            knock 0 -450
+            knock 2 225
+            hour 1000
+            ofThermometer 0 9 = 600
+            ofThermometer 1 9 = 1000
+            ofThermometer 2 9 = 1200
+            count 9 = 3
+            count 4 = 7
+            """);
         SENTENCES.test("Of those that were compared: not who has the strikes but no reading in this hour", """
             thermometer 0 1 0 1
             thermometer 0 1 0 1
@@ -749,6 +816,19 @@ public final class TermsBoundaryTest {
             knock 2 9
             hour 1000
             count 5 = 1006
+            """);
+        SENTENCES.test("The mean: without who is shut out", """
+            3 x thermometer 0 1 0 1
+            thermometer 0 9 0 5
+            set 1 1
+            knock 3 338
+            hour 1000
+            count 4 = 8
+            count 5 = 1000
+            calibrate 3
+            knock 3 9
+            hour 1000
+            count 5 = 1005
             """);
         SENTENCES.test("The mean of ten with the greatest weight", "10 x thermometer 0 1 0 5", "hour 5000", "count 5 = 5000", "hour -5000",
             "count 5 = -5000");

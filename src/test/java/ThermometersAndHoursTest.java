@@ -127,19 +127,6 @@ public final class ThermometersAndHoursTest {
         CHECKS.refusesArgument("hour(5001)", x, y -> y.hour(5001));
         CHECKS.refusesArgument("hour(-5001)", x, y -> y.hour(-5001));
         CHECKS.refusesArgument("hour(MIN)", x, y -> y.hour(Integer.MIN_VALUE));
-        for (int i = 0; i < 416; i++) {
-            x.hours(24, 0);
-        }
-        x.hours(14, 0);
-        CHECKS.same("the hour", x.count(0), 9998);
-        CHECKS.refusesState("two hours more", x, y -> y.hours(2, 0));
-        CHECKS.same("the last hour", x.hour(1), 0);
-        CHECKS.same("the hour", x.count(0), 9999);
-        CHECKS.refusesState("hour at the end", x, y -> y.hour(1));
-        CHECKS.refusesArgument("hour(5001) at the end", x, y -> y.hour(5001));
-        CHECKS.refusesState("hours at the end", x, y -> y.hours(1, 0));
-        CHECKS.refusesArgument("hours(25) at the end", x, y -> y.hours(25, 0));
-        CHECKS.same("what would be goes on", x.ifStill(48, 3), 0);
     }
 
     private static void rowsAreReadByPeriod() {

@@ -204,6 +204,49 @@ public final class UndoAndSnapshotsBoundaryTest {
         SENTENCES.test("Restores a snapshot: with fewer and with more thermometers", "two", "keep 0", "thermometer 3 5 9 2", "keep 1", "goBack 0",
             "count 1 = 2", "ofThermometer 2 0 ! IndexOutOfBounds", "thermometer 1 2 3 4 = 2", "goBack 1", "count 1 = 3", "ofThermometer 2 1 = 5",
             "ofThermometer 2 2 = 9");
+        SENTENCES.test("Restores a snapshot: with another thermometer of the same number", """
+            thermometer 3 9 -200 5
+            keep 0 = 0
+            undo = 0
+            thermometer 0 1 200 1 = 0
+            goBack 0 = 0
+            ofThermometer 0 0 = 3
+            ofThermometer 0 1 = 9
+            ofThermometer 0 2 = -200
+            ofThermometer 0 3 = 5
+            ofThermometer 0 4 = 800
+            undo = 1
+            ofThermometer 0 0 = 0
+            ofThermometer 0 1 = 1
+            ofThermometer 0 2 = 200
+            ofThermometer 0 3 = 1
+            ofThermometer 0 4 = 1200
+            """);
+        SENTENCES.test("Restores a snapshot: a thermometer that comes then starts afresh", """
+            thermometer 0 1 0 1
+            keep 1 = 0
+            thermometer 0 9 0 1
+            set 1 1
+            knock 1 338
+            hours 2 0
+            ofThermometer 1 8 = 1
+            goBack 1 = 0
+            thermometer 2 3 -4 5 = 1
+            ofThermometer 1 0 = 2
+            ofThermometer 1 1 = 3
+            ofThermometer 1 2 = -4
+            ofThermometer 1 3 = 5
+            ofThermometer 1 4 = 996
+            ofThermometer 1 5 = 0
+            ofThermometer 1 6 = 0
+            ofThermometer 1 7 = 0
+            ofThermometer 1 8 = 0
+            ofThermometer 1 9 = NONE
+            reading 1 0 0 = NONE
+            hour 1000 = 2
+            ofThermometer 1 9 = 1000
+            reading 1 1 1 = NONE
+            """);
         SENTENCES.test("Undoable: the oldest of six saved states is dropped", "keep 0", "6 x hour 1", "goBack 0", "count 10 = 6", "5 x undo",
             "undo = 0", "count 0 = 1");
     }
