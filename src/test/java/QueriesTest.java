@@ -86,7 +86,7 @@ public final class QueriesTest {
         x.period(1, 4);
         x.period(2, 6);
         int[] reads = {0, 0, 0, 0};
-        for (int hour = 0; hour < 30; hour++) {
+        for (int hour = 0; hour < 24; hour++) {
             int[] periods = {1, 4, 6, 1};
             int[] thermometers = {0, 2, 0, 1};
             for (int row = 0; row < 4; row++) {

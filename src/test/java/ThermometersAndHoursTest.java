@@ -188,7 +188,7 @@ public final class ThermometersAndHoursTest {
         x.set(0, 2000);
         x.hour(1000);
         int truth = 1000;
-        for (int hour = 0; hour < 60; hour++) {
+        for (int hour = 0; hour < 45; hour++) {
             truth = Math.max(-5000, Math.min(5000, truth + (hour * 7919 % 1999) - 999));
             x.hour(truth);
             for (int number = 0; number < 9; number++) {

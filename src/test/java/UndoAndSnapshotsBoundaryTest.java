@@ -12,6 +12,7 @@ public final class UndoAndSnapshotsBoundaryTest {
         wholeState();
         keep();
         goBack();
+        whoIsGone();
         goBackRefuses();
         noPartOfTheState();
         SENTENCES.finish();
@@ -249,6 +250,104 @@ public final class UndoAndSnapshotsBoundaryTest {
             """);
         SENTENCES.test("Undoable: the oldest of six saved states is dropped", "keep 0", "6 x hour 1", "goBack 0", "count 10 = 6", "5 x undo",
             "undo = 0", "count 0 = 1");
+    }
+
+    /** A thermometer that had readings, strikes and spikes, and is not there any more. */
+    private static void whoIsGone() {
+        String one = """
+            count 1 = 1
+            count 3 = 1
+            count 4 = 0
+            count 5 = 1000
+            count 7 = 1000
+            count 8 = 1
+            count 9 = 0
+            ranked 0 0 = 0
+            ranked 0 1 = NONE
+            ranked 1 0 = 0
+            ranked 1 1 = NONE
+            between MIN MAX = 1
+            meanError = 0.0
+            row 0 1 = 1
+            ofThermometer 1 0 ! IndexOutOfBounds
+            ifStill 1 0 = 1000
+            ifStill 1 1 = 0
+            ifStill 1 2 = 0
+            ifStill 1 3 = 0
+            hour 1000 = 1
+            count 6 = 0
+            count 8 = 2
+            count 9 = 0
+            """;
+        SENTENCES.test("Restores a snapshot: who is gone is in no answer", """
+            thermometer 0 1 0 1
+            hour 1000 = 1
+            keep 0 = 1
+            thermometer 0 9 0 5
+            knock 1 -900
+            hour 1000 = 2
+            ofThermometer 1 9 = 200
+            count 3 = 3
+            ifStill 1 3 = 712
+            goBack 0 = 1
+            """, one);
+        SENTENCES.test("Restores a snapshot: who is gone is in no answer, above all others", """
+            thermometer 0 9 0 1
+            knock 0 9
+            hour 1000 = 1
+            keep 0 = 1
+            thermometer 0 9 0 5
+            knock 1 900
+            hour 1000 = 2
+            ofThermometer 1 9 = 1800
+            goBack 0 = 1
+            ranked 0 0 = 0
+            ranked 0 1 = NONE
+            ranked 1 0 = 0
+            ranked 1 1 = NONE
+            between 1008 MAX = 1
+            meanError = 8.0
+            count 5 = 1008
+            """);
+        SENTENCES.test("Restores the state that was saved last: who is gone is in no answer", """
+            thermometer 0 1 0 1
+            hour 1000 = 1
+            write t0,9;h50;h0
+            execute = 3
+            ofThermometer 1 7 = 2
+            count 3 = 3
+            ifStill 1 3
+            undo = 2
+            """, one);
+        String ofThree = """
+            3 x thermometer 0 1 0 1
+            hour 1000 = 3
+            keep 1 = 1
+            set 0 10
+            set 1 1
+            thermometer 0 9 0 1
+            knock 3 -900
+            hour 1000 = 4
+            count 4 = 8
+            count 9 = 1
+            ifStill 2 1 = 8
+            goBack 1 = 1
+            """;
+        SENTENCES.test("Restores a snapshot: who is gone is not shut out", ofThree, "count 4 = 0", "count 3 = 7", "ifStill 1 1 = 0", "count 12 = 300",
+            "count 13 = 2");
+        SENTENCES.test("Restores a snapshot: who is gone is not compared, with a reading of an hour that passes again", """
+            3 x thermometer 0 1 0 1
+            hour 1000 = 3
+            keep 1 = 1
+            thermometer 0 9 0 1
+            knock 3 -900
+            hour 1000 = 4
+            ofThermometer 3 8 = 1
+            goBack 1 = 1
+            hour 1000 = 3
+            count 9 = 0
+            count 8 = 6
+            """);
     }
 
     private static void goBackRefuses() {
