@@ -15,7 +15,7 @@ public final class AgainstModelTest {
     private static final int KINDS = 6;
     private static final int TO_THE_LAST_HOUR = 1;
     /** Each of the 25 methods answers, and throws each exception of its clause. */
-    private static final int OUTCOMES = 59;
+    private static final int OUTCOMES = 60;
     private static final int CALLS = 512;
     private static final int[] FAR = {Integer.MIN_VALUE, Integer.MIN_VALUE + 1, -999999, -100000, 100000, 999999, Integer.MAX_VALUE - 1, Integer.MAX_VALUE};
     private static final String[] CHANGING = {"thermometer", "hour", "hours", "period", "calibrate", "knock", "set",
@@ -53,13 +53,39 @@ public final class AgainstModelTest {
         RANGES.put("meanError", new int[] {});
     }
 
+    private static final Map<String, Method> OF_PROGRAM = methods(LateThermometers.class);
+    private static final Map<String, Method> OF_MODEL = methods(Model.class);
+    private static final List<Call> LOOK = look();
+
+    private static final class Call {
+        final String name;
+        final Object[] arguments;
+
+        Call(String name, Object... arguments) {
+            this.name = name;
+            this.arguments = arguments;
+        }
+
+        Object on(LateThermometers x) {
+            return answer(OF_PROGRAM.get(name), x, arguments);
+        }
+
+        Object on(Model x) {
+            return answer(OF_MODEL.get(name), x, arguments);
+        }
+
+        @Override
+        public String toString() {
+            return name + Arrays.toString(arguments);
+        }
+    }
+
     private final Random random;
     private final int run;
     private final LateThermometers program = new LateThermometers();
     private final Model model = new Model();
     private final List<String> story = new ArrayList<>();
-    private final Map<String, Method> ofProgram = methods(LateThermometers.class);
-    private final Map<String, Method> ofModel = methods(Model.class);
+    private final List<Call> calls = new ArrayList<>();
     private final int[] weights;
     /** The calls for an order text: its characters, and what is asked of it. */
     private final Deque<Integer> characters = new ArrayDeque<>();
@@ -110,18 +136,19 @@ public final class AgainstModelTest {
     }
 
     private boolean agrees(Map<String, Integer> kinds) {
-        for (int call = 0; call < CALLS; call++) {
+        while (calls.size() < CALLS) {
             String name = pick();
-            Object[] arguments = arguments(name);
-            Object got = answer(ofProgram.get(name), program, arguments);
-            Object due = answer(ofModel.get(name), model, arguments);
-            story.add(name + Arrays.toString(arguments) + " -> " + got);
+            Call call = new Call(name, arguments(name));
+            Object got = call.on(program);
+            Object due = call.on(model);
+            calls.add(call);
+            story.add(call + " -> " + got);
             kinds.merge(name + (due instanceof String ? " " + due : ""), 1, Integer::sum);
             if (!got.equals(due)) {
                 return complain(name, got, due);
             }
             boolean look = random.nextInt(due instanceof String ? 20 : 40) == 0;
-            if (look && !looksAlike()) {
+            if (look && !twinLooksAlike()) {
                 return false;
             }
         }
@@ -144,26 +171,41 @@ public final class AgainstModelTest {
         }
     }
 
-    /** Every query once, with all arguments in their ranges and one beyond. */
-    private boolean looksAlike() {
+    /** A twin that made the same calls is asked until it has had 512 of them; the program itself keeps its calls for the run. */
+    private boolean twinLooksAlike() {
+        LateThermometers twin = new LateThermometers();
+        for (Call call : calls) {
+            call.on(twin);
+        }
+        int first = random.nextInt(LOOK.size());
+        for (int i = 0; i < Math.min(LOOK.size(), CALLS - calls.size()); i++) {
+            Call query = LOOK.get((first + i) % LOOK.size());
+            Object got = query.on(twin);
+            Object due = query.on(model);
+            if (!got.equals(due)) {
+                return complain("the look " + query, got, due);
+            }
+        }
+        return true;
+    }
+
+    /** The queries with all arguments in their ranges and one beyond. */
+    private static List<Call> look() {
+        List<Call> queries = new ArrayList<>();
         for (String name : ASKING) {
-            int[] range = RANGES.get(name);
             if (name.equals("between") || name.equals("ifStill")) {
                 continue;
             }
+            int[] range = RANGES.get(name);
             Object[] arguments = new Object[range.length / 2];
             for (int i = 0; i < arguments.length; i++) {
                 arguments[i] = range[2 * i] - 1;
             }
             do {
-                Object got = answer(ofProgram.get(name), program, arguments);
-                Object due = answer(ofModel.get(name), model, arguments);
-                if (!got.equals(due)) {
-                    return complain("the look " + name + Arrays.toString(arguments), got, due);
-                }
+                queries.add(new Call(name, arguments.clone()));
             } while (increase(arguments, range));
         }
-        return true;
+        return queries;
     }
 
     private static boolean increase(Object[] arguments, int[] range) {
@@ -182,7 +224,7 @@ public final class AgainstModelTest {
         if (!ofText.isEmpty()) {
             return ofText.removeFirst();
         }
-        boolean atTheEnd = run % KINDS == TO_THE_LAST_HOUR && program.count(0) > 9960;
+        boolean atTheEnd = run % KINDS == TO_THE_LAST_HOUR && model.count(0) > 9960;
         String name = atTheEnd ? "hours hour hours append thermometer undo goBack".split(" ")[random.nextInt(7)] : pickByWeight();
         if (name.equals("append") && random.nextInt(8) != 0) {
             planText();
@@ -220,17 +262,17 @@ public final class AgainstModelTest {
             arguments[1] = setting == 0 ? number(10, random.nextBoolean() ? 60 : 2000) : number(1, 5);
         } else if (fine && name.equals("append")) {
             arguments[0] = planned ? characters.removeFirst() : (int) "tphc;,*-0159".charAt(random.nextInt(12));
-        } else if (fine && name.equals("hours") && run % KINDS == TO_THE_LAST_HOUR && program.count(0) <= 9960) {
+        } else if (fine && name.equals("hours") && run % KINDS == TO_THE_LAST_HOUR && model.count(0) <= 9960) {
             arguments[0] = 24;
         } else if (fine && name.equals("knock")) {
             arguments[1] = number(random.nextBoolean() ? 1500 : -3000, 3000);
         } else if (fine && name.equals("between")) {
-            int middle = program.count(2);
+            int middle = model.count(2);
             arguments[0] = middle - random.nextInt(200);
             arguments[1] = middle + random.nextInt(200);
         }
-        if (fine && arguments.length > 0 && ofExisting(name) && program.count(1) > 0) {
-            arguments[0] = random.nextInt(program.count(1));
+        if (fine && arguments.length > 0 && ofExisting(name) && model.count(1) > 0) {
+            arguments[0] = random.nextInt(model.count(1));
         }
         return arguments;
     }
@@ -259,7 +301,7 @@ public final class AgainstModelTest {
     /** Plans the calls that write an order text, with a wrong character now and then, and carry it out. */
     private void planText() {
         String text = orderText(1 + random.nextInt(12));
-        if (program.count(11) > 0 && random.nextInt(4) != 0) {
+        if (model.count(11) > 0 && random.nextInt(4) != 0) {
             ofText.add("clearBuffer");
         }
         characters.clear();
@@ -290,7 +332,7 @@ public final class AgainstModelTest {
             case 0: return "t" + random.nextInt(4) + "," + (1 + random.nextInt(9));
             case 1: return "t" + random.nextInt(4) + "," + (1 + random.nextInt(9)) + "*" + (1 + random.nextInt(5));
             case 2: return "p" + random.nextInt(4) + "/" + (1 + random.nextInt(6));
-            case 3: return "c" + random.nextInt(random.nextBoolean() ? 10 : Math.max(1, program.count(1)));
+            case 3: return "c" + random.nextInt(random.nextBoolean() ? 10 : Math.max(1, model.count(1)));
             default: return (random.nextInt(3) == 0 ? "h-" : "h") + random.nextInt(random.nextInt(8) == 0 ? 60 : 51);
         }
     }

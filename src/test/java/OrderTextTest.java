@@ -23,11 +23,12 @@ public final class OrderTextTest {
     }
 
     private static void appendAdds() {
+        LateThermometers empty = new LateThermometers();
+        CHECKS.refusesArgument("append(32)", empty, y -> y.append(32));
+        CHECKS.refusesArgument("append(127)", empty, y -> y.append(127));
+        CHECKS.refusesArgument("append(-1)", empty, y -> y.append(-1));
+        CHECKS.refusesArgument("append(65536 + 'h')", empty, y -> y.append(65536 + 'h'));
         LateThermometers x = new LateThermometers();
-        CHECKS.refusesArgument("append(32)", x, y -> y.append(32));
-        CHECKS.refusesArgument("append(127)", x, y -> y.append(127));
-        CHECKS.refusesArgument("append(-1)", x, y -> y.append(-1));
-        CHECKS.refusesArgument("append(65536 + 'h')", x, y -> y.append(65536 + 'h'));
         CHECKS.same("append(33)", x.append(33), 1);
         CHECKS.same("append(126)", x.append(126), 2);
         for (int length = 3; length <= 60; length++) {

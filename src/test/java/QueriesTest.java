@@ -29,7 +29,8 @@ public final class QueriesTest {
         return x;
     }
 
-    private static void ofThermometerTells() {
+    /** Three thermometers; the last one was knocked, and has its first spike. */
+    private static LateThermometers withASpike() {
         LateThermometers x = new LateThermometers();
         x.thermometer(2, 1, 0, 1);
         x.thermometer(2, 1, 0, 1);
@@ -38,6 +39,11 @@ public final class QueriesTest {
         x.hour(1000);
         x.knock(2, 200);
         x.hour(1000);
+        return x;
+    }
+
+    private static void ofThermometerTells() {
+        LateThermometers x = withASpike();
         int[] due = {3, 4, -80, 5, 1070, 1, 0, 2, 1, 1070 + 150 * 3 + 80};
         for (int what = 0; what < 10; what++) {
             CHECKS.same("ofThermometer(2, " + what + ")", x.ofThermometer(2, what), due[what]);
@@ -46,10 +52,10 @@ public final class QueriesTest {
         x.hour(1000);
         CHECKS.same("shut out", x.ofThermometer(2, 6), 1);
         CHECKS.same("shut out, but mended", x.ofThermometer(2, 9), 1783 + (1783 - 1070) * 3 + 80);
-        CHECKS.refusesRow("ofThermometer(3, 0)", x, y -> y.ofThermometer(3, 0));
-        CHECKS.refusesRow("ofThermometer(-1, 10)", x, y -> y.ofThermometer(-1, 10));
-        CHECKS.refusesArgument("ofThermometer(0, 10)", x, y -> y.ofThermometer(0, 10));
-        CHECKS.refusesArgument("ofThermometer(0, -1)", x, y -> y.ofThermometer(0, -1));
+        CHECKS.refusesRow("ofThermometer(3, 0)", withASpike(), y -> y.ofThermometer(3, 0));
+        CHECKS.refusesRow("ofThermometer(-1, 10)", withASpike(), y -> y.ofThermometer(-1, 10));
+        CHECKS.refusesArgument("ofThermometer(0, 10)", withASpike(), y -> y.ofThermometer(0, 10));
+        CHECKS.refusesArgument("ofThermometer(0, -1)", withASpike(), y -> y.ofThermometer(0, -1));
     }
 
     private static void readingTells() {
@@ -69,13 +75,13 @@ public final class QueriesTest {
         CHECKS.same("the sixth", x.reading(0, 5, 0), 14);
         CHECKS.same("the seventh", x.reading(0, 6, 0), NONE);
         CHECKS.same("the seventh", x.reading(0, 6, 1), NONE);
-        CHECKS.refusesRow("reading(1, -1, 2)", x, y -> y.reading(1, -1, 2));
-        CHECKS.refusesRow("reading(-1, 0, 0)", x, y -> y.reading(-1, 0, 0));
-        CHECKS.refusesArgument("reading(0, -1, 0)", x, y -> y.reading(0, -1, 0));
-        CHECKS.refusesArgument("reading(0, MIN, 0)", x, y -> y.reading(0, Integer.MIN_VALUE, 0));
-        CHECKS.refusesArgument("reading(0, 0, 2)", x, y -> y.reading(0, 0, 2));
-        CHECKS.refusesArgument("reading(0, 0, -1)", x, y -> y.reading(0, 0, -1));
-        CHECKS.refusesArgument("reading(0, 9, 2)", x, y -> y.reading(0, 9, 2));
+        CHECKS.refusesRow("reading(1, -1, 2)", knocked(90), y -> y.reading(1, -1, 2));
+        CHECKS.refusesRow("reading(-1, 0, 0)", knocked(90), y -> y.reading(-1, 0, 0));
+        CHECKS.refusesArgument("reading(0, -1, 0)", knocked(90), y -> y.reading(0, -1, 0));
+        CHECKS.refusesArgument("reading(0, MIN, 0)", knocked(90), y -> y.reading(0, Integer.MIN_VALUE, 0));
+        CHECKS.refusesArgument("reading(0, 0, 2)", knocked(90), y -> y.reading(0, 0, 2));
+        CHECKS.refusesArgument("reading(0, 0, -1)", knocked(90), y -> y.reading(0, 0, -1));
+        CHECKS.refusesArgument("reading(0, 9, 2)", knocked(90), y -> y.reading(0, 9, 2));
     }
 
     private static void rowTells() {
@@ -98,10 +104,10 @@ public final class QueriesTest {
             }
             x.hour(0);
         }
-        CHECKS.refusesRow("row(4, 0)", x, y -> y.row(4, 0));
-        CHECKS.refusesRow("row(-1, 4)", x, y -> y.row(-1, 4));
-        CHECKS.refusesArgument("row(0, 4)", x, y -> y.row(0, 4));
-        CHECKS.refusesArgument("row(3, -1)", x, y -> y.row(3, -1));
+        CHECKS.refusesRow("row(4, 0)", knocked(90), y -> y.row(4, 0));
+        CHECKS.refusesRow("row(-1, 4)", knocked(90), y -> y.row(-1, 4));
+        CHECKS.refusesArgument("row(0, 4)", knocked(90), y -> y.row(0, 4));
+        CHECKS.refusesArgument("row(3, -1)", knocked(90), y -> y.row(3, -1));
     }
 
     private static void countTells() {
@@ -123,8 +129,8 @@ public final class QueriesTest {
         for (int what = 0; what < due.length; what++) {
             CHECKS.same("count(" + what + ")", x.count(what), due[what]);
         }
-        CHECKS.refusesArgument("count(14)", x, y -> y.count(14));
-        CHECKS.refusesArgument("count(-1)", x, y -> y.count(-1));
+        CHECKS.refusesArgument("count(14)", knocked(90), y -> y.count(14));
+        CHECKS.refusesArgument("count(-1)", knocked(90), y -> y.count(-1));
         LateThermometers y = knocked(0, 90, 180);
         CHECKS.same("0, 80 and 160 more, weighted", y.count(5), (1 * 1000 + 2 * 1080 + 3 * 1160) / 6);
         y.hour(-1000);
@@ -190,10 +196,10 @@ public final class QueriesTest {
         CHECKS.same("without 3", x.ranked(0, 1), 2);
         CHECKS.same("without 3: the last", x.ranked(0, 4), 4);
         CHECKS.same("without 3: none", x.ranked(0, 5), NONE);
-        CHECKS.refusesArgument("ranked(2, 0)", x, y -> y.ranked(2, 0));
-        CHECKS.refusesArgument("ranked(-1, 0)", x, y -> y.ranked(-1, 0));
-        CHECKS.refusesArgument("ranked(0, -1)", x, y -> y.ranked(0, -1));
-        CHECKS.refusesArgument("ranked(1, MIN)", x, y -> y.ranked(1, Integer.MIN_VALUE));
+        CHECKS.refusesArgument("ranked(2, 0)", knocked(90), y -> y.ranked(2, 0));
+        CHECKS.refusesArgument("ranked(-1, 0)", knocked(90), y -> y.ranked(-1, 0));
+        CHECKS.refusesArgument("ranked(0, -1)", knocked(90), y -> y.ranked(0, -1));
+        CHECKS.refusesArgument("ranked(1, MIN)", knocked(90), y -> y.ranked(1, Integer.MIN_VALUE));
     }
 
     private static void rankedByError() {
@@ -231,13 +237,12 @@ public final class QueriesTest {
     }
 
     private static void queriesChangeNothing() {
-        LateThermometers x = knocked(90, -180, 180);
-        x.append('h');
-        CHECKS.changesNothing("ofThermometer", x, y -> y.ofThermometer(0, 9));
-        CHECKS.changesNothing("reading", x, y -> y.reading(0, 0, 1));
-        CHECKS.changesNothing("row", x, y -> y.row(0, 2));
-        CHECKS.changesNothing("count", x, y -> y.count(7));
-        CHECKS.changesNothing("ranked", x, y -> y.ranked(1, 1));
-        CHECKS.changesNothing("between", x, y -> y.between(0, 2000));
+        Checks.Call[] queries = {y -> y.ofThermometer(0, 9), y -> y.reading(0, 0, 1), y -> y.row(0, 2), y -> y.count(7),
+            y -> y.ranked(1, 1), y -> y.between(0, 2000)};
+        for (int i = 0; i < queries.length; i++) {
+            LateThermometers x = knocked(90, -180, 180);
+            x.append('h');
+            CHECKS.changesNothing("query " + i, x, queries[i]);
+        }
     }
 }

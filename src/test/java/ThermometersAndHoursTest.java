@@ -68,6 +68,14 @@ public final class ThermometersAndHoursTest {
         CHECKS.same("added and undone: count(1)", x.count(1), 1);
     }
 
+    private static LateThermometers ten() {
+        LateThermometers x = new LateThermometers();
+        for (int number = 0; number < 10; number++) {
+            CHECKS.same("number", x.thermometer(number % 4, 1, 0, 1), number);
+        }
+        return x;
+    }
+
     private static void thermometerRefuses() {
         LateThermometers x = new LateThermometers();
         CHECKS.refusesRow("thermometer(-1, ..)", x, y -> y.thermometer(-1, 1, 0, 1));
@@ -75,17 +83,15 @@ public final class ThermometersAndHoursTest {
         CHECKS.refusesRow("row before the rest", x, y -> y.thermometer(4, 0, 201, 6));
         CHECKS.refusesArgument("lag 0", x, y -> y.thermometer(0, 0, 0, 1));
         CHECKS.refusesArgument("lag 10", x, y -> y.thermometer(0, 10, 0, 1));
-        CHECKS.refusesArgument("offset -201", x, y -> y.thermometer(0, 1, -201, 1));
-        CHECKS.refusesArgument("offset 201", x, y -> y.thermometer(0, 1, 201, 1));
-        CHECKS.refusesArgument("weight 0", x, y -> y.thermometer(0, 1, 0, 0));
-        CHECKS.refusesArgument("weight 6", x, y -> y.thermometer(0, 1, 0, 6));
-        for (int number = 0; number < 10; number++) {
-            CHECKS.same("number", x.thermometer(number % 4, 1, 0, 1), number);
-        }
-        CHECKS.refusesState("an eleventh one", x, y -> y.thermometer(0, 1, 0, 1));
-        CHECKS.refusesArgument("an eleventh one with lag 0", x, y -> y.thermometer(0, 0, 0, 1));
-        CHECKS.refusesRow("an eleventh one without a row", x, y -> y.thermometer(9, 0, 0, 1));
-        CHECKS.same("the tenth is there", x.ofThermometer(9, 0), 1);
+        LateThermometers other = new LateThermometers();
+        CHECKS.refusesArgument("offset -201", other, y -> y.thermometer(0, 1, -201, 1));
+        CHECKS.refusesArgument("offset 201", other, y -> y.thermometer(0, 1, 201, 1));
+        CHECKS.refusesArgument("weight 0", other, y -> y.thermometer(0, 1, 0, 0));
+        CHECKS.refusesArgument("weight 6", other, y -> y.thermometer(0, 1, 0, 6));
+        CHECKS.refusesState("an eleventh one", ten(), y -> y.thermometer(0, 1, 0, 1));
+        CHECKS.refusesArgument("an eleventh one with lag 0", ten(), y -> y.thermometer(0, 0, 0, 1));
+        CHECKS.refusesRow("an eleventh one without a row", ten(), y -> y.thermometer(9, 0, 0, 1));
+        CHECKS.same("the tenth is there", ten().ofThermometer(9, 0), 1);
     }
 
     private static void hourPasses() {
@@ -395,9 +401,19 @@ public final class ThermometersAndHoursTest {
         CHECKS.same("undone: strikes", x.ofThermometer(3, 5), strikes);
         x.hour(1200);
         CHECKS.same("other thermometers keep theirs", x.ofThermometer(0, 7), 6);
-        CHECKS.refusesRow("calibrate(5)", x, y -> y.calibrate(5));
-        CHECKS.refusesRow("calibrate(-1)", x, y -> y.calibrate(-1));
-        CHECKS.refusesRow("calibrate(MAX)", x, y -> y.calibrate(Integer.MAX_VALUE));
+        CHECKS.refusesRow("calibrate(10)", ten(), y -> y.calibrate(10));
+        CHECKS.refusesRow("calibrate(4)", threeAndAKnockedOne(9), y -> y.calibrate(4));
+        CHECKS.refusesRow("calibrate(-1)", threeAndAKnockedOne(9), y -> y.calibrate(-1));
+        CHECKS.refusesRow("calibrate(MAX)", threeAndAKnockedOne(9), y -> y.calibrate(Integer.MAX_VALUE));
+    }
+
+    private static LateThermometers knockedTimes(int times, int change) {
+        LateThermometers x = new LateThermometers();
+        x.thermometer(0, 2, 0, 1);
+        for (int i = 0; i < times; i++) {
+            x.knock(0, change);
+        }
+        return x;
     }
 
     private static void knockChangesWhatIsShown() {
@@ -412,21 +428,17 @@ public final class ThermometersAndHoursTest {
         x.undo();
         x.undo();
         CHECKS.same("undone", x.ofThermometer(0, 4), -2000);
-        CHECKS.refusesRow("knock(1, 3001)", x, y -> y.knock(1, 3001));
-        CHECKS.refusesRow("knock(-1, 0)", x, y -> y.knock(-1, 0));
-        CHECKS.refusesArgument("knock(0, 3001)", x, y -> y.knock(0, 3001));
-        CHECKS.refusesArgument("knock(0, -3001)", x, y -> y.knock(0, -3001));
-        for (int i = 0; i < 6; i++) {
-            x.knock(0, -3000);
-        }
-        CHECKS.same("as low as it goes", x.ofThermometer(0, 4), -20000);
-        CHECKS.refusesState("lower", x, y -> y.knock(0, -1));
-        CHECKS.refusesArgument("far lower", x, y -> y.knock(0, -3001));
-        for (int i = 0; i < 13; i++) {
-            x.knock(0, 3000);
-        }
-        CHECKS.same("the last bit", x.knock(0, 1000), 120000);
-        CHECKS.refusesState("higher", x, y -> y.knock(0, 1));
+        CHECKS.refusesRow("knock(1, 3001)", knockedTimes(1, 1), y -> y.knock(1, 3001));
+        CHECKS.refusesRow("knock(-1, 0)", knockedTimes(1, 1), y -> y.knock(-1, 0));
+        CHECKS.refusesArgument("knock(0, 3001)", knockedTimes(1, 1), y -> y.knock(0, 3001));
+        CHECKS.refusesArgument("knock(0, -3001)", knockedTimes(1, 1), y -> y.knock(0, -3001));
+        LateThermometers low = knockedTimes(7, -3000);
+        CHECKS.same("as low as it goes", low.ofThermometer(0, 4), -20000);
+        CHECKS.refusesState("lower", low, y -> y.knock(0, -1));
+        CHECKS.refusesArgument("far lower", low, y -> y.knock(0, -3001));
+        LateThermometers high = knockedTimes(6, 3000);
+        CHECKS.same("the last bit", high.knock(0, 1000), 120000);
+        CHECKS.refusesState("higher", high, y -> y.knock(0, 1));
     }
 
     private static void setChangesSettings() {

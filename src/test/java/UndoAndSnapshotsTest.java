@@ -129,31 +129,34 @@ public final class UndoAndSnapshotsTest {
     }
 
     private static void keepTakesASnapshot() {
+        LateThermometers twin = busy();
+        String first = Views.stateOf(twin);
+        twin.hours(3, 500);
+        String second = Views.stateOf(twin);
+        twin.hour(77);
+        String third = Views.stateOf(twin);
         LateThermometers x = busy();
-        String first = Views.stateOf(x);
         CHECKS.same("keep(1)", x.keep(1), 8);
         CHECKS.same("keep saves no state", x.count(10), 6);
         x.hours(3, 500);
         CHECKS.same("keep(0)", x.keep(0), 11);
-        String second = Views.stateOf(x);
         x.calibrate(0);
         x.goBack(1);
         CHECKS.sameText("the slot 1", Views.stateOf(x), first);
         x.goBack(0);
         CHECKS.sameText("the slot 0", Views.stateOf(x), second);
         x.hour(77);
-        String third = Views.stateOf(x);
         CHECKS.same("keep(1) again", x.keep(1), 12);
         x.hour(78);
         x.goBack(1);
         CHECKS.sameText("the slot 1 is replaced", Views.stateOf(x), third);
-        CHECKS.refusesArgument("keep(2)", x, y -> y.keep(2));
-        CHECKS.refusesArgument("keep(-1)", x, y -> y.keep(-1));
+        CHECKS.refusesArgument("keep(2)", new LateThermometers(), y -> y.keep(2));
+        CHECKS.refusesArgument("keep(-1)", new LateThermometers(), y -> y.keep(-1));
     }
 
     private static void goBackRestores() {
+        String later = Views.stateOf(busy());
         LateThermometers x = busy();
-        String later = Views.stateOf(x);
         CHECKS.same("goBack(0)", x.goBack(0), 6);
         String kept = Views.stateOf(x);
         CHECKS.same("the hour", x.count(0), 6);

@@ -41,7 +41,8 @@ final class Views {
         for (int what = 0; what <= 9; what++) {
             view.append(' ').append(x.ofThermometer(thermometer, what));
         }
-        for (int ago = 0; ago <= 6; ago++) {
+        int kept = x.ofThermometer(thermometer, 7);
+        for (int ago = 0; ago <= kept; ago++) {
             view.append(' ').append(x.reading(thermometer, ago, 0)).append(':').append(x.reading(thermometer, ago, 1));
         }
         view.append(" ranks ").append(x.ranked(0, thermometer)).append(' ').append(x.ranked(1, thermometer));

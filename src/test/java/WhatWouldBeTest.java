@@ -14,6 +14,14 @@ public final class WhatWouldBeTest {
         CHECKS.finish("WhatWouldBeTest");
     }
 
+    /** One thermometer with the number 0. */
+    private static LateThermometers one() {
+        LateThermometers x = new LateThermometers();
+        x.thermometer(0, 4, 10, 1);
+        x.hour(1400);
+        return x;
+    }
+
     private static void ifLagTells() {
         LateThermometers x = new LateThermometers();
         x.thermometer(0, 4, 10, 1);
@@ -27,10 +35,10 @@ public final class WhatWouldBeTest {
             CHECKS.same("ifLag(0, " + lag + ")", x.ifLag(0, lag), 1110 + rise + rise * (lag - 1) / 2 - 10);
         }
         CHECKS.same("as it is", x.ifLag(0, 4), x.ofThermometer(0, 9));
-        CHECKS.refusesRow("ifLag(1, 0)", x, y -> y.ifLag(1, 0));
-        CHECKS.refusesRow("ifLag(-1, 1)", x, y -> y.ifLag(-1, 1));
-        CHECKS.refusesArgument("ifLag(0, 0)", x, y -> y.ifLag(0, 0));
-        CHECKS.refusesArgument("ifLag(0, 10)", x, y -> y.ifLag(0, 10));
+        CHECKS.refusesRow("ifLag(1, 0)", one(), y -> y.ifLag(1, 0));
+        CHECKS.refusesRow("ifLag(-1, 1)", one(), y -> y.ifLag(-1, 1));
+        CHECKS.refusesArgument("ifLag(0, 0)", one(), y -> y.ifLag(0, 0));
+        CHECKS.refusesArgument("ifLag(0, 10)", one(), y -> y.ifLag(0, 10));
     }
 
     private static void bestLagIsFound() {
@@ -88,11 +96,11 @@ public final class WhatWouldBeTest {
         low.thermometer(0, 9, 50, 1);
         low.knock(0, -900);
         CHECKS.same("far off below", low.ifStill(1, 3), 800);
-        CHECKS.refusesArgument("ifStill(0, 0)", x, y -> y.ifStill(0, 0));
-        CHECKS.refusesArgument("ifStill(49, 0)", x, y -> y.ifStill(49, 0));
-        CHECKS.refusesArgument("ifStill(1, 4)", x, y -> y.ifStill(1, 4));
-        CHECKS.refusesArgument("ifStill(1, -1)", x, y -> y.ifStill(1, -1));
-        CHECKS.refusesArgument("ifStill(MIN, 0)", x, y -> y.ifStill(Integer.MIN_VALUE, 0));
+        CHECKS.refusesArgument("ifStill(0, 0)", one(), y -> y.ifStill(0, 0));
+        CHECKS.refusesArgument("ifStill(49, 0)", one(), y -> y.ifStill(49, 0));
+        CHECKS.refusesArgument("ifStill(1, 4)", one(), y -> y.ifStill(1, 4));
+        CHECKS.refusesArgument("ifStill(1, -1)", one(), y -> y.ifStill(1, -1));
+        CHECKS.refusesArgument("ifStill(MIN, 0)", one(), y -> y.ifStill(Integer.MIN_VALUE, 0));
     }
 
     private static int meanInFive(LateThermometers x) {
@@ -126,8 +134,8 @@ public final class WhatWouldBeTest {
     }
 
     private static void stillInTells() {
+        CHECKS.refusesRow("stillIn(0) without any", new LateThermometers(), y -> y.stillIn(0));
         LateThermometers x = new LateThermometers();
-        CHECKS.refusesRow("stillIn(0) without any", x, y -> y.stillIn(0));
         x.thermometer(0, 1, 30, 1);
         x.thermometer(0, 4, 0, 1);
         x.thermometer(0, 9, 0, 1);
@@ -155,8 +163,8 @@ public final class WhatWouldBeTest {
         CHECKS.isTrue("it changes in the last hour", then != before);
         x.hour(1000);
         CHECKS.same("and not any more", x.ofThermometer(2, 4), then);
-        CHECKS.refusesRow("stillIn(3)", x, y -> y.stillIn(3));
-        CHECKS.refusesRow("stillIn(-1)", x, y -> y.stillIn(-1));
+        CHECKS.refusesRow("stillIn(1)", one(), y -> y.stillIn(1));
+        CHECKS.refusesRow("stillIn(-1)", one(), y -> y.stillIn(-1));
         farthest();
     }
 
@@ -173,10 +181,11 @@ public final class WhatWouldBeTest {
         int before = x.ofThermometer(0, 4);
         for (int i = 0; i < 200; i++) {
             x.hour(-5000);
-            if (x.ofThermometer(0, 4) != before) {
+            int after = x.ofThermometer(0, 4);
+            if (after != before) {
                 passed = i + 1;
             }
-            before = x.ofThermometer(0, 4);
+            before = after;
         }
         CHECKS.same("from near 20000 to -5200", hours, passed);
     }
@@ -210,7 +219,8 @@ public final class WhatWouldBeTest {
         CHECKS.sameDouble("they count", y.meanError(), (800 * 9 + 0) / 2.0);
     }
 
-    private static void theyChangeNothing() {
+    /** Two thermometers with readings, the second one knocked; a snapshot, and a text that goes on. */
+    private static LateThermometers two() {
         LateThermometers x = new LateThermometers();
         x.thermometer(0, 3, 20, 1);
         x.thermometer(1, 8, 20, 1);
@@ -219,11 +229,16 @@ public final class WhatWouldBeTest {
         x.knock(1, 999);
         x.append('h');
         x.keep(0);
-        CHECKS.changesNothing("ifLag", x, y -> y.ifLag(0, 8));
-        CHECKS.changesNothing("bestLag", x, y -> y.bestLag(1));
-        CHECKS.changesNothing("ifStill", x, y -> y.ifStill(48, 2));
-        CHECKS.changesNothing("stillIn", x, y -> y.stillIn(1));
-        CHECKS.changesNothing("meanError", x, LateThermometers::meanError);
+        return x;
+    }
+
+    private static void theyChangeNothing() {
+        CHECKS.changesNothing("ifLag", two(), y -> y.ifLag(0, 8));
+        CHECKS.changesNothing("bestLag", two(), y -> y.bestLag(1));
+        CHECKS.changesNothing("ifStill", two(), y -> y.ifStill(48, 2));
+        CHECKS.changesNothing("stillIn", two(), y -> y.stillIn(1));
+        CHECKS.changesNothing("meanError", two(), LateThermometers::meanError);
+        LateThermometers x = two();
         String before = Views.stateOf(x);
         x.hour(0);
         x.ifStill(9, 0);
