@@ -52,6 +52,7 @@ public final class LanguageTest {
 
     public static void main(String[] args) throws IOException {
         faceIsTheDocuments();
+        sizesKeepToTheLanguage();
         sourceKeepsToTheLanguage();
         CHECKS.finish("LanguageTest");
     }
@@ -100,8 +101,47 @@ public final class LanguageTest {
         return text.toString();
     }
 
+    /** Rule 11, but for the depth of the calls. */
+    private static void sizesKeepToTheLanguage() throws IOException {
+        Class<?>[] inside = LateThermometers.class.getDeclaredClasses();
+        CHECKS.isTrue("the file has at most twelve classes", inside.length < 12);
+        for (Class<?> each : inside) {
+            sizesKeepToTheLanguage(each);
+        }
+        sizesKeepToTheLanguage(LateThermometers.class);
+        methodsAreShort();
+    }
+
+    /** The classes inside come behind all methods of the face; a method is told by the indent of its last brace. */
+    private static void methodsAreShort() throws IOException {
+        String[] lines = source().split("\n");
+        String end = "    }";
+        int endBefore = 0;
+        for (int i = 0; i < lines.length; i++) {
+            if (lines[i].matches("    \\w.* class .*")) {
+                end = "        }";
+                endBefore = i;
+            } else if (lines[i].equals(end)) {
+                CHECKS.isTrue("the method that ends in line " + (i + 1) + " is short", i - endBefore <= 60);
+                endBefore = i;
+            }
+        }
+    }
+
+    private static void sizesKeepToTheLanguage(Class<?> each) {
+        long fields = Arrays.stream(each.getDeclaredFields()).filter(field -> !Modifier.isStatic(field.getModifiers())).count();
+        CHECKS.isTrue(each + " has at most twenty fields", fields <= 20);
+        for (Method method : each.getDeclaredMethods()) {
+            CHECKS.isTrue(method + " takes at most seven parameters", method.getParameterCount() <= 7);
+        }
+    }
+
+    private static String source() throws IOException {
+        return Files.readString(Path.of(System.getProperty("program", "src/main/java/LateThermometers.java")));
+    }
+
     private static void sourceKeepsToTheLanguage() throws IOException {
-        String source = Files.readString(Path.of(System.getProperty("program", "src/main/java/LateThermometers.java")));
+        String source = source();
         String code = source.replaceAll("(?s)/\\*.*?\\*/", "").replaceAll("//[^\n]*", "");
         for (String word : FORBIDDEN) {
             Matcher matcher = Pattern.compile(word).matcher(code);
